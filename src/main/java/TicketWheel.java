@@ -42,7 +42,6 @@ public final class TicketWheel {
         imageZero = new Image();
         imageOne = new Image();
         wheel.takeGame(play);
-        wheel.takeTickets(play);
     }
 
     // ---- 1 games, tickets
@@ -354,11 +353,8 @@ public final class TicketWheel {
     }
 
     private static long tellFraction(int upper, int lower, int part) {
-        if (!isWithin(part, 0, 1)) {
-            return GONE + OUTSIDE;
-        }
         int divisor = commonDivisor(upper, lower);
-        if (divisor < 1) {
+        if (!isWithin(part, 0, 1) || divisor < 1) {
             return GONE + OUTSIDE;
         }
         return part == 0 ? upper / divisor : lower / divisor;

@@ -218,8 +218,31 @@ public final class PromiseTest {
         due.equal("6 six", x.tickets(), 6);
         due.equal("6 sixth", x.ticket(5), 112);
         due.equal("6 won by them", x.won(0), 26);
+        write(x, "123;345");
+        x.tickets();
+        write(x, "123");
+        x.tickets();
+        due.equal("6 fewer now: won", x.won(0), 13);
+        due.equal("6 fewer now: often", x.often(5), 0);
+        x.prize(0, 35);
+        x.prize(1, 0);
+        due.equal("6 fewer now: mean", x.mean(0), 4);
+        // 75 * 8 + 74 left over by 35 is 9: the tenth draw, 28, which 345 would win.
+        due.equal("6 fewer now: a year", x.year(8, 1, 0), 0);
+        due.equal("6 fewer now: its pence", x.year(8, 99, 1), penceOfNoneRight(x, 8, 99));
         due.equal("6 none again", x.tickets(), 0);
         due.equal("6 none won", x.won(0), 0);
+    }
+
+    /** With 35 pence for none right and one ticket: the year that is told draw by draw. */
+    private static int penceOfNoneRight(TicketWheel x, int seed, int m) {
+        int lot = seed;
+        int pence = 0;
+        for (int i = 0; i < m; i++) {
+            lot = (75 * lot + 74) % 65537;
+            pence += x.right(0, x.fits(lot % 35)) == 0 ? 35 : 0;
+        }
+        return pence;
     }
 
     private static void promise7Ticket() {
@@ -288,6 +311,9 @@ public final class PromiseTest {
         TicketWheel y = of(8, 4, 4, 2, "1234;5678");
         due.equal("10 seventy all won", y.won(0), 70);
         due.equal("10 none missed", y.won(2), NONE);
+        TicketWheel u = of(8, 2, 4, 1, "12;36");
+        due.equal("10 all but one of seventy", u.won(0), 69);
+        due.equal("10 the 65th missed", u.won(2), 216);
         TicketWheel z = of(8, 4, 4, 4, "5678");
         due.equal("10 the last alone", z.won(0), 1);
         due.equal("10 the first missed", z.won(2), 15);
@@ -308,6 +334,9 @@ public final class PromiseTest {
         TicketWheel v = of(8, 4, 4, 3, "1234");
         due.equal("11 upper", v.odds(0), 17);
         due.equal("11 lower", v.odds(1), 70);
+        TicketWheel w = of(8, 4, 4, 3, "1234;5678");
+        due.equal("11 by two upper", w.odds(0), 17);
+        due.equal("11 by two lower", w.odds(1), 35);
         due.equal("11 below", v.odds(-1), GONE_OUTSIDE);
         due.equal("11 above", v.odds(2), GONE_OUTSIDE);
         due.equal("11 far above", v.odds(GREATEST), GONE_OUTSIDE);
@@ -568,6 +597,16 @@ public final class PromiseTest {
         due.equal("24 no draw fits", x.surely(0), NO);
         due.equal("24 no draw fits 1", x.surely(1), NO);
         due.equal("24 outside first", x.surely(2), OUTSIDE);
+        TicketWheel z = with("123");
+        z.seen(0, 3, 0);
+        due.equal("24 the first draw alone", z.surely(0), 7);
+        // 124 and 234 fit; of the 35 draws of the game ahead the next one, 125, would fit as well.
+        z.game(4, 2, 3, 1);
+        write(z, "13");
+        z.tickets();
+        z.seen(0, 1, 0);
+        due.equal("24 of a smaller game", z.surely(0), 10);
+        due.equal("24 not of a smaller game", z.surely(1), 0);
         TicketWheel y = of(8, 4, 4, 4, "5678");
         y.seen(0, 4, 1);
         due.equal("24 one draw", y.surely(0), 240);
@@ -637,12 +676,15 @@ public final class PromiseTest {
         x.image(1);
         due.equal("28 the other not kept", x.restore(0), STATE);
         int fitting = x.fits(-1);
+        long sights = sightsOf(x);
         int best = x.most(2, 1);
         int useless = x.useless();
         x.game(5, 2, 2, 1);
         x.prize(8, 12);
         write(x, "12;23;34");
         x.tickets();
+        x.seen(0, 0, 0);
+        x.seen(2, 1, 2);
         x.say('7');
         x.most(2, 1);
         due.equal("28 restored", x.restore(1), 1);
@@ -653,6 +695,7 @@ public final class PromiseTest {
         due.equal("28 prize", x.told(18), 11);
         due.equal("28 tickets", x.ticket(1), 56);
         due.equal("28 sights", x.fits(-1), fitting);
+        due.equal("28 kind of sights", sightsOf(x), sights);
         due.equal("28 most", x.most(2, 1), best);
         due.equal("28 useless", x.useless(), useless);
         due.equal("28 draws", x.won(1), 15);
@@ -660,6 +703,21 @@ public final class PromiseTest {
         due.equal("28 once more", x.restore(1), 1);
         due.equal("28 still kept", x.told(1), 6);
         due.equal("28 fond works", x.more(0) & 5, 5);
+        TicketWheel y = new TicketWheel();
+        y.fond(7);
+        y.image(0);
+        y.game(8, 4, 4, 4);
+        y.restore(0);
+        due.equal("28 bound", y.bound(), 3);
+        due.equal("28 one could be", y.most(2, -1), NONE);
+    }
+
+    private static long sightsOf(TicketWheel x) {
+        long sum = 0;
+        for (int i = 0; i < x.fits(-1); i++) {
+            sum = sum * 31 + x.fits(i);
+        }
+        return sum;
     }
 
     private static void promise29Told() {
