@@ -5,6 +5,8 @@ import java.util.List;
 /** Most and sure in each game there is and with each fond, beside all choices gone through. */
 public final class ChoiceTest {
     private static final int NONE = -6;
+    /** A fond takes some twenty calls, and nothing is promised about an object after its 512th. */
+    private static final int FONDS_AN_OBJECT = 20;
     private static final Due due = new Due("choices");
 
     private static int draws;
@@ -13,13 +15,11 @@ public final class ChoiceTest {
     private static long[] high;
 
     public static void main(String[] args) {
-        TicketWheel x = new TicketWheel();
         for (int n = 3; n <= 8; n++) {
             for (int t = 2; t < n; t++) {
                 for (int d = 2; d < n; d++) {
                     for (int r = 1; r <= Math.min(t, d); r++) {
-                        x.game(n, t, d, r);
-                        eachFond(x, n, t, d, r);
+                        eachFond(n, t, d, r);
                     }
                 }
             }
@@ -27,8 +27,13 @@ public final class ChoiceTest {
         due.close();
     }
 
-    private static void eachFond(TicketWheel x, int n, int t, int d, int r) {
+    private static void eachFond(int n, int t, int d, int r) {
+        TicketWheel x = null;
         for (int fond = 0; fond < 1 << n; fond++) {
+            if (fond % FONDS_AN_OBJECT == 0) {
+                x = new TicketWheel();
+                x.game(n, t, d, r);
+            }
             if (Integer.bitCount(fond) > t) {
                 continue;
             }
